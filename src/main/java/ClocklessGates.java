@@ -33,7 +33,6 @@ public final class ClocklessGates {
     private final Graph graph;
     private final Circuit circuit;
     private final LeastSum leastSum;
-    private final int[] spans;
     private int verdict;
     private int latestFault;
 
@@ -41,8 +40,7 @@ public final class ClocklessGates {
         net = new Net();
         graph = new Graph();
         circuit = new Circuit();
-        spans = spansOfAllProducts();
-        leastSum = new LeastSum(spans);
+        leastSum = new LeastSum();
         verdict = NONE;
         latestFault = NONE;
     }
@@ -163,7 +161,7 @@ public final class ClocklessGates {
         if (circuit.gates[s].count >= MAX_PRODUCTS) {
             throw new IllegalStateException("the gate has 8 products already");
         }
-        return circuit.gates[s].add(number, spans[number]);
+        return circuit.gates[s].add(number, leastSum.spanOf(number));
     }
 
     public void strip(int s) throws IndexOutOfBoundsException {
@@ -231,24 +229,6 @@ public final class ClocklessGates {
         if (verdict != FINE) {
             throw new IllegalStateException("the latest verdict is not FINE");
         }
-    }
-
-    /**
-     * For each product the codes that it covers, as bits. One table serves any number of signals:
-     * a signal that is not there has digit 0 in every number and is low in every code.
-     */
-    private static int[] spansOfAllProducts() {
-        int[] table = new int[ALL_PRODUCTS];
-        table[0] = 1;
-        for (int s = 0; s < MAX_SIGNALS; s++) {
-            int step = POWER_OF_THREE[s];
-            for (int number = 0; number < step; number++) {
-                int high = table[number] << (1 << s);
-                table[number + step] = high;
-                table[number + 2 * step] = table[number] | high;
-            }
-        }
-        return table;
     }
 
     /** The signals, transitions and places as they were added. */
@@ -653,8 +633,31 @@ public final class ClocklessGates {
         private int widestCover;
         private int bestCost;
 
-        LeastSum(int[] spans) {
-            this.spans = spans;
+        LeastSum() {
+            spans = spansOfAllProducts();
+        }
+
+        /**
+         * For each product the codes that it covers, as bits. One table serves any number of signals:
+         * a signal that is not there has digit 0 in every number and is low in every code.
+         */
+        private static int[] spansOfAllProducts() {
+            int[] table = new int[ALL_PRODUCTS];
+            table[0] = 1;
+            for (int s = 0; s < MAX_SIGNALS; s++) {
+                int step = POWER_OF_THREE[s];
+                for (int number = 0; number < step; number++) {
+                    int high = table[number] << (1 << s);
+                    table[number + step] = high;
+                    table[number + 2 * step] = table[number] | high;
+                }
+            }
+            return table;
+        }
+
+        /** The codes, as bits, that a product covers. */
+        int spanOf(int number) {
+            return spans[number];
         }
 
         /** Whether there is a sum of at most 8 products. */
