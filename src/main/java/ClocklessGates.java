@@ -781,7 +781,9 @@ public final class ClocklessGates {
         private void keepIfLess(int cost) {
             if (cost < bestCost || cost == bestCost && takenComesFirst()) {
                 bestCost = cost;
-                System.arraycopy(taken, 0, best, 0, primeCount);
+                for (int i = 0; i < primeCount; i++) {
+                    best[i] = taken[i];
+                }
             }
         }
 

@@ -85,6 +85,12 @@ public final class FaceTest {
             DUE.that("class " + inner.getName() + " is static and hidden", Modifier.isStatic(inner.getModifiers())
                     && !Modifier.isPublic(inner.getModifiers()) && !Modifier.isProtected(inner.getModifiers()));
             DUE.that("class " + inner.getName() + " has some twenty fields", inner.getDeclaredFields().length <= 20);
+            for (Method method : inner.getDeclaredMethods()) {
+                DUE.that("method " + method.getName() + " of " + inner.getName() + " has a name of its own",
+                        FACE.stream().noneMatch(face -> face.contains(" " + method.getName() + "(")));
+                DUE.that("method " + method.getName() + " has at most seven parameters",
+                        method.getParameterCount() <= 7);
+            }
         }
         DUE.that("some twelve classes", type.getDeclaredClasses().length <= 11);
     }

@@ -89,9 +89,8 @@ public final class GateTest {
     /** Every product of every number of signals, at every code. */
     private static void valuesAreThoseOfTheDigits() {
         for (int n = 1; n <= 5; n++) {
-            ClocklessGates x = signals(n, 0);
             for (int number = 0; number < Math.pow(3, n); number++) {
-                x.strip(0);
+                ClocklessGates x = signals(n, 0);
                 x.append(0, number);
                 for (int i = 0; i < 1 << n; i++) {
                     int code = i;

@@ -4,7 +4,8 @@ import java.util.function.IntSupplier;
 
 /** Many nets and circuits, each call compared with the plain model (all promises, 1 to 19). */
 public final class ModelTest {
-    private static final int NETS = 6000;
+    private static final int NETS = 10000;
+    private static final int CALLS_OF_AN_OBJECT = 512;
     private final Due due = new Due();
     private final int[] verdictsSeen = new int[6];
     private final int[] answersSeen = new int[4];
@@ -14,6 +15,7 @@ public final class ModelTest {
     private final boolean[] highAtFirst = new boolean[5];
     private Random random;
     private int seed;
+    private int calls;
     private ClocklessGates x;
     private PlainModel y;
     private int signals;
@@ -29,15 +31,17 @@ public final class ModelTest {
             random = new Random(seed);
             x = new ClocklessGates();
             y = new PlainModel();
+            calls = 0;
             signals = 0;
             edges = 0;
             places = 0;
-            makeNet(seed % 5);
+            makeNet(seed % 6);
             useNet();
             if (random.nextInt(4) == 0) {
                 changeNet();
                 useNet();
             }
+            lookAtRest();
             toldByDigits += y.toldByDigits;
             toldByNumbers += y.toldByNumbers;
         }
@@ -49,14 +53,19 @@ public final class ModelTest {
         }
         due.that("sums told by digits are seen, " + toldByDigits, toldByDigits >= 10);
         due.that("sums told by numbers are seen, " + toldByNumbers, toldByNumbers >= 10);
+        due.that("sums of more than 8 products are seen, " + refusedSums, refusedSums >= 10);
         System.out.println("verdicts " + Arrays.toString(verdictsSeen) + ", answers " + Arrays.toString(answersSeen)
                 + ", told by digits " + toldByDigits + ", by numbers " + toldByNumbers + ", refused " + refusedSums);
         due.end();
     }
 
+    /** What an object answers after its 512th call is free, so that it is not asked any more. */
     private String same(String call, IntSupplier got, IntSupplier want) {
         String outcome = Due.outcomeOf(want);
-        due.outcome("seed " + seed + ": " + call, outcome, Due.outcomeOf(got));
+        calls++;
+        if (calls <= CALLS_OF_AN_OBJECT) {
+            due.outcome("seed " + seed + ": " + call, outcome, Due.outcomeOf(got));
+        }
         return outcome;
     }
 
@@ -89,7 +98,8 @@ public final class ModelTest {
             case 1 -> makeTiedRings(n);
             case 2 -> makeLongRings(n);
             case 3 -> makeToggles(n);
-            default -> makeWalks(n);
+            case 4 -> makeWalks(n);
+            default -> makeParity();
         }
     }
 
@@ -230,6 +240,45 @@ public final class ModelTest {
         }
     }
 
+    /**
+     * Four inputs toggle one at a time and an output answers, but not always, which makes long sums: at
+     * times nine products.
+     */
+    private void makeParity() {
+        int turns = 10;
+        for (int s = 0; s < 5; s++) {
+            signal(s < 4, false);
+            place(true);
+            place(false);
+        }
+        place(true);
+        place(false);
+        for (int s = 0; s < 4; s++) {
+            makeToggle(s, true, turns, turns + 1);
+            makeToggle(s, false, turns, turns + 1);
+        }
+        boolean stops = random.nextBoolean();
+        makeToggle(4, stops, turns + 1, turns);
+        int most = 1 + random.nextInt(5);
+        for (int i = 0; i < most; i++) {
+            makeToggle(4, !stops, turns + 1, turns);
+            for (int s = random.nextInt(4); s < 4; s += 1 + random.nextInt(4)) {
+                int read = 2 * s + random.nextInt(2);
+                arc(read, edges - 1, false);
+                arc(read, edges - 1, true);
+            }
+        }
+    }
+
+    /** Place 2s has a token while signal s is low, place 2s + 1 while it is high. */
+    private void makeToggle(int s, boolean rising, int turn, int nextTurn) {
+        edge(s, rising);
+        arc(2 * s + (rising ? 0 : 1), edges - 1, false);
+        arc(2 * s + (rising ? 1 : 0), edges - 1, true);
+        arc(turn, edges - 1, false);
+        arc(nextTurn, edges - 1, true);
+    }
+
     private void changeNet() {
         switch (random.nextInt(4)) {
             case 0 -> signal(random.nextBoolean(), random.nextBoolean());
@@ -237,14 +286,15 @@ public final class ModelTest {
             case 2 -> place(random.nextBoolean());
             default -> arc(random.nextInt(places + 1), random.nextInt(edges + 1), random.nextBoolean());
         }
-        lookAtAll();
+        lookAtSome();
     }
 
     private void useNet() {
         String verdict = same("analyse", () -> x.analyse(), () -> y.analyse());
         verdictsSeen[Integer.parseInt(verdict)]++;
-        lookAtAll();
+        lookAtSome();
         synthesise();
+        lookAtProducts();
         check();
         for (int i = 0; i < 6; i++) {
             changeGate();
@@ -252,10 +302,10 @@ public final class ModelTest {
                 check();
             }
         }
-        lookAtAll();
         if (random.nextBoolean()) {
+            lookAtSome();
             synthesise();
-            lookAtAll();
+            lookAtProducts();
         }
     }
 
@@ -281,29 +331,56 @@ public final class ModelTest {
         same("append", () -> x.append(s, number), () -> y.append(s, number));
     }
 
-    private void lookAtAll() {
+    /** How many states the model has; 0 when it has no graph. */
+    private int stateCount() {
+        String count = Due.outcomeOf(() -> y.states());
+        return Character.isDigit(count.charAt(0)) ? Integer.parseInt(count) : 0;
+    }
+
+    private void lookAtState(int k) {
+        same("code", () -> x.code(k), () -> y.code(k));
+        same("marking", () -> x.marking(k), () -> y.marking(k));
+        same("found", () -> x.found(k), () -> y.found(k));
+        same("excited", () -> x.excited(k), () -> y.excited(k));
+    }
+
+    private void lookAtValue(int s, int code) {
+        same("value", () -> x.value(s, code), () -> y.value(s, code));
+    }
+
+    private void lookAtSome() {
         same("states", () -> x.states(), () -> y.states());
         same("fault", () -> x.fault(), () -> y.fault());
-        String count = Due.outcomeOf(() -> y.states());
-        int limit = Character.isDigit(count.charAt(0)) ? Integer.parseInt(count) : 0;
-        for (int i = -1; i <= limit; i++) {
-            int k = i;
-            same("code", () -> x.code(k), () -> y.code(k));
-            same("marking", () -> x.marking(k), () -> y.marking(k));
-            same("found", () -> x.found(k), () -> y.found(k));
-            same("excited", () -> x.excited(k), () -> y.excited(k));
+        int count = stateCount();
+        lookAtState(count - 1);
+        for (int i = 0; i < 6; i++) {
+            lookAtState(random.nextInt(count + 2) - 1);
+            lookAtValue(random.nextInt(signals + 1), random.nextInt((1 << signals) + 1));
         }
-        for (int i = -1; i <= signals; i++) {
+    }
+
+    private void lookAtProducts() {
+        for (int i = 0; i <= signals; i++) {
             int s = i;
             same("products", () -> x.products(s), () -> y.products(s));
-            for (int j = -1; j <= 8; j++) {
+            String count = Due.outcomeOf(() -> y.products(s));
+            int limit = Character.isDigit(count.charAt(0)) ? Integer.parseInt(count) : 0;
+            for (int j = 0; j <= limit; j++) {
                 int k = j;
                 same("product", () -> x.product(s, k), () -> y.product(s, k));
             }
-            for (int j = -1; j <= 1 << signals; j++) {
-                int code = j;
-                same("value", () -> x.value(s, code), () -> y.value(s, code));
+        }
+    }
+
+    /** With the calls that are left, as far as they go, from the last state down. */
+    private void lookAtRest() {
+        for (int s = 0; s < signals; s++) {
+            for (int code = 0; code < 1 << signals; code += 3) {
+                lookAtValue(s, code);
             }
+        }
+        for (int k = stateCount(); k >= -1 && calls < CALLS_OF_AN_OBJECT; k--) {
+            lookAtState(k);
         }
     }
 }

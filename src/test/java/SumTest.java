@@ -5,7 +5,11 @@ public final class SumTest {
     public static void main(String[] args) {
         sumsOfKnownCircuits();
         constantsHaveTheirSums();
-        fewestDigitsThenLeastNumbers();
+        productZeroCounts();
+        outputsHaveSumsOfTheirOwn();
+        fewestProductsComeBeforeFewestDigits();
+        fewestDigitsComeBeforeLeastNumbers();
+        leastNumbersAreToldByTheFirstPlace();
         eightProductsFitAndNineDoNot();
         synthesiseReplacesGates();
         refusedWithoutFine();
@@ -45,16 +49,81 @@ public final class SumTest {
         DUE.answer("constants: check()", 0, x::check);
     }
 
-    private static void fewestDigitsThenLeastNumbers() {
+    /** An output alone that rises and falls: its next value is 1 in code 0 alone. */
+    private static void productZeroCounts() {
+        ClocklessGates x = Nets.signals(false);
+        Nets.ring(x, 1, -1);
+        x.analyse();
+        DUE.answer("product 0: synthesise()", 1, x::synthesise);
+        gate("product 0", x, 0, 0);
+        DUE.answer("product 0: check()", 0, x::check);
+    }
+
+    /** Rings through inputs and outputs in turn; each output follows the signal before it. */
+    private static void outputsHaveSumsOfTheirOwn() {
+        ClocklessGates x = Nets.signals(false, true, false, false);
+        Nets.ring(x, 2, 1, 3, 4, -2, -1, -3, -4);
+        DUE.answer("a long ring: analyse()", 0, x::analyse);
+        DUE.answer("a long ring: synthesise()", 3, x::synthesise);
+        gate("a long ring", x, 0, 77);
+        gate("a long ring", x, 1);
+        gate("a long ring", x, 2, 79);
+        gate("a long ring", x, 3, 71);
+        DUE.answer("a long ring: check()", 0, x::check);
+    }
+
+    /**
+     * A token walks through these codes. On are 2, 10, 18, 19, 23, 28, 29, 31: three products of eight digits
+     * do, and so would four products of seven digits.
+     */
+    private static void fewestProductsComeBeforeFewestDigits() {
+        int[] codes = {14, 6, 4, 10, 26, 2, 18, 19, 23, 31, 29, 28, 20};
+        int[][] steps = {{0, 1}, {1, 2}, {0, 3}, {3, 4}, {1, 5}, {5, 6}, {6, 7}, {7, 8}, {8, 9}, {9, 10},
+            {10, 11}, {11, 12}, {12, 2}, {4, 3}};
+        ClocklessGates x = walk(codes, steps);
+        DUE.answer("told by products: analyse()", 0, x::analyse);
+        DUE.answer("told by products: states()", 13, x::states);
+        DUE.answer("told by products: synthesise()", 3, x::synthesise);
+        gate("told by products", x, 4, 62, 104, 125);
+        DUE.answer("told by products: check()", 0, x::check);
+    }
+
+    /** Five signals, the last one an output; a place for each code, and a step from one to the other. */
+    private static ClocklessGates walk(int[] codes, int[][] steps) {
+        ClocklessGates x = new ClocklessGates();
+        for (int s = 0; s < 5; s++) {
+            x.signal(s < 4, (codes[0] >> s & 1) == 1);
+        }
+        for (int i = 0; i < codes.length; i++) {
+            x.place(i == 0);
+        }
+        for (int[] step : steps) {
+            int bit = codes[step[0]] ^ codes[step[1]];
+            int t = x.edge(Integer.numberOfTrailingZeros(bit), (codes[step[1]] & bit) != 0);
+            Nets.through(x, step[0], t, step[1]);
+        }
+        return x;
+    }
+
+    /**
+     * On are 13, 15, 7, 6, off are 0, 8, 12: {0 high} is needed for 13, and for 6 either {1 high}, 77, or
+     * {2 high, 3 low}, 17, which has the lesser number but more digits.
+     */
+    private static void fewestDigitsComeBeforeLeastNumbers() {
+        ClocklessGates digits = chain(4, 1, 4, 3, 1, 2, -4, -1);
+        DUE.answer("told by digits: synthesise()", 2, digits::synthesise);
+        gate("told by digits", digits, 1, 77, 79);
+    }
+
+    private static void leastNumbersAreToldByTheFirstPlace() {
         // On are 2, 6, 7, 5, off is 0: {1 high} is needed for 2, and {0 high} or {2 high} for 5.
         ClocklessGates numbers = chain(3, 2, 2, 3, 1, -2);
         DUE.answer("told by numbers: synthesise()", 2, numbers::synthesise);
         gate("told by numbers", numbers, 2, 17, 23);
-        // On are 13, 15, 7, 6, off are 0, 8, 12: {0 high} is needed for 13, and for 6 either
-        // {1 high}, 77, or {2 high, 3 low}, 17, which has the lesser number but more digits.
-        ClocklessGates digits = chain(4, 1, 4, 3, 1, 2, -4, -1);
-        DUE.answer("told by digits: synthesise()", 2, digits::synthesise);
-        gate("told by digits", digits, 1, 77, 79);
+        // 51 and 59 would do as well: they are less in all, and at the last place.
+        ClocklessGates first = chain(4, 3, 2, 4, -2, 3, 2, 1, -4);
+        DUE.answer("told by the first place: synthesise()", 2, first::synthesise);
+        gate("told by the first place", first, 3, 47, 75);
     }
 
     /** So many signals, all of them inputs but one, and a chain of edges; analysed. */

@@ -6,6 +6,7 @@ public final class VerdictTest {
         unsafe();
         wrong();
         disabled();
+        everyEdgeCanBeLost();
         notDisabled();
         conflict();
         earlierVerdictsComeFirst();
@@ -99,6 +100,30 @@ public final class VerdictTest {
         verdict("an input takes a token that an output only reads", taker(true, false), 3, 0);
         verdict("an output takes a token that an input only reads", taker(false, true), 3, 0);
         verdict("an output takes a token that an output only reads", taker(false, false), 3, 0);
+    }
+
+    /** A choice between an edge of each signal and one of each other signal, of inputs and of outputs. */
+    private static void everyEdgeCanBeLost() {
+        for (int i = 0; i < 5 * 5 * 16; i++) {
+            int one = i % 5;
+            int other = i / 5 % 5;
+            boolean oneIsInput = i / 25 % 2 == 0;
+            boolean otherIsInput = i / 50 % 2 == 0;
+            boolean oneRises = i / 100 % 2 == 0;
+            boolean otherRises = i / 200 % 2 == 0;
+            if (one != other) {
+                ClocklessGates x = new ClocklessGates();
+                for (int s = 0; s < 5; s++) {
+                    boolean input = s == one ? oneIsInput : s == other ? otherIsInput : s % 2 == 0;
+                    x.signal(input, s == one ? !oneRises : s == other && !otherRises);
+                }
+                places(x, true);
+                edge(x, one, oneRises, 0, ClocklessGates.NONE);
+                edge(x, other, otherRises, 0, ClocklessGates.NONE);
+                boolean lost = !oneIsInput || !otherIsInput;
+                verdict("choice " + i, x, lost ? 3 : 0, lost ? 0 : -1);
+            }
+        }
     }
 
     private static void notDisabled() {
