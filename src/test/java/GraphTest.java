@@ -87,30 +87,16 @@ public final class GraphTest {
         state("stuck", x, 0, 0, 3, -1, 3);
     }
 
-    /** Signal s walks up and down a chain of so many edges. */
-    private static ClocklessGates chains(int... lengths) {
-        ClocklessGates x = new ClocklessGates();
-        for (int s = 0; s < lengths.length; s++) {
-            x.signal(true, false);
-            int here = x.place(true);
-            for (int i = 0; i < lengths[s]; i++) {
-                int t = x.edge(s, i % 2 == 0);
-                int next = i + 1 < lengths[s] ? x.place(false) : ClocklessGates.NONE;
-                Nets.through(x, here, t, next);
-                here = next;
-            }
-        }
-        return x;
-    }
-
     private static void graphHasAtMostEightyStates() {
-        ClocklessGates fits = chains(4, 3, 3);
+        ClocklessGates fits = new ClocklessGates();
+        Nets.chains(fits, 4, 3, 3);
         DUE.answer("80 states: analyse()", 0, fits::analyse);
         DUE.answer("80 states: fault()", -1, fits::fault);
         DUE.answer("80 states: states()", 80, fits::states);
         DUE.answer("80 states: marking(79)", 0, () -> fits.marking(79));
         DUE.answer("80 states: code(79)", 6, () -> fits.code(79));
-        ClocklessGates exceeds = chains(2, 2, 2, 2);
+        ClocklessGates exceeds = new ClocklessGates();
+        Nets.chains(exceeds, 2, 2, 2, 2);
         DUE.answer("81 states: analyse()", 5, exceeds::analyse);
         DUE.answer("81 states: fault()", -1, exceeds::fault);
         DUE.refusal("81 states: states()", IllegalStateException.class, exceeds::states);

@@ -132,12 +132,7 @@ public final class SumTest {
         for (int s = 0; s < signals; s++) {
             x.signal(s != output, false);
         }
-        int here = x.place(true);
-        for (int edge : edges) {
-            int next = x.place(false);
-            Nets.through(x, here, x.edge(Math.abs(edge) - 1, edge > 0), next);
-            here = next;
-        }
+        Nets.chain(x, edges);
         DUE.answer("chain: analyse()", 0, x::analyse);
         return x;
     }

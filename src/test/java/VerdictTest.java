@@ -23,14 +23,6 @@ public final class VerdictTest {
         }
     }
 
-    private static ClocklessGates signals(boolean... inputs) {
-        ClocklessGates x = new ClocklessGates();
-        for (boolean input : inputs) {
-            x.signal(input, false);
-        }
-        return x;
-    }
-
     private static void edge(ClocklessGates x, int s, boolean rising, int before, int behind) {
         Nets.through(x, before, x.edge(s, rising), behind);
     }
@@ -42,20 +34,20 @@ public final class VerdictTest {
     }
 
     private static void unsafe() {
-        ClocklessGates x = signals(true, true);
+        ClocklessGates x = Nets.signals(true, true);
         places(x, true, false, true, true);
         edge(x, 0, true, 0, 1);
         edge(x, 0, false, 1, 2);
         verdict("a token on a token", x, 1, 1);
         DUE.answer("a token on a token: states()", 2, x::states);
-        ClocklessGates y = signals(true);
+        ClocklessGates y = Nets.signals(true);
         places(y, true);
         edge(y, 0, true, 0, 0);
         DUE.that("a token put back is safe", y.analyse() != 1);
     }
 
     private static void wrong() {
-        ClocklessGates up = signals(true);
+        ClocklessGates up = Nets.signals(true);
         places(up, true, false);
         edge(up, 0, true, 0, 1);
         edge(up, 0, true, 1, ClocklessGates.NONE);
@@ -64,18 +56,18 @@ public final class VerdictTest {
         edge(up, 1, true, up.place(true), ClocklessGates.NONE);
         verdict("up twice, beside another edge", up, 2, 1);
         DUE.answer("up twice, beside another edge: states()", 4, up::states);
-        ClocklessGates down = signals(true);
+        ClocklessGates down = Nets.signals(true);
         places(down, true);
         edge(down, 0, false, 0, ClocklessGates.NONE);
         verdict("down at first", down, 2, 0);
-        ClocklessGates bare = signals(false);
+        ClocklessGates bare = Nets.signals(false);
         edge(bare, 0, true, ClocklessGates.NONE, ClocklessGates.NONE);
         verdict("an edge without places", bare, 2, 1);
     }
 
     /** Two rising edges that share one token in a state behind the rise of input 0. */
     private static ClocklessGates choice(boolean firstIsInput, boolean secondIsInput) {
-        ClocklessGates x = signals(true, firstIsInput, secondIsInput);
+        ClocklessGates x = Nets.signals(true, firstIsInput, secondIsInput);
         places(x, true, false);
         edge(x, 0, true, 0, 1);
         edge(x, 1, true, 1, ClocklessGates.NONE);
@@ -85,7 +77,7 @@ public final class VerdictTest {
 
     /** Signal 0 takes the token of a place; signal 1 needs it and puts it back. */
     private static ClocklessGates taker(boolean takerIsInput, boolean readerIsInput) {
-        ClocklessGates x = signals(takerIsInput, readerIsInput);
+        ClocklessGates x = Nets.signals(takerIsInput, readerIsInput);
         places(x, true, true);
         edge(x, 0, true, 0, ClocklessGates.NONE);
         edge(x, 1, true, 0, 0);
@@ -129,19 +121,19 @@ public final class VerdictTest {
     private static void notDisabled() {
         verdict("two inputs", choice(true, true), 0, -1);
         verdict("an input takes a token that an input only reads", taker(true, true), 0, -1);
-        ClocklessGates same = signals(false);
+        ClocklessGates same = Nets.signals(false);
         places(same, true);
         edge(same, 0, true, 0, ClocklessGates.NONE);
         edge(same, 0, true, 0, ClocklessGates.NONE);
         verdict("the same edge twice", same, 0, -1);
-        ClocklessGates other = signals(true, false);
+        ClocklessGates other = Nets.signals(true, false);
         places(other, true, false);
         edge(other, 0, true, 0, 1);
         edge(other, 1, true, 0, ClocklessGates.NONE);
         edge(other, 1, true, 1, ClocklessGates.NONE);
         DUE.answer("the edge goes on by another transition", 3, other::analyse);
         DUE.answer("but not the other one", 0, other::fault);
-        ClocklessGates both = signals(true, false);
+        ClocklessGates both = Nets.signals(true, false);
         places(both, true, false, false);
         edge(both, 0, true, 0, 1);
         edge(both, 1, true, 0, 2);
@@ -151,13 +143,13 @@ public final class VerdictTest {
     }
 
     private static void conflict() {
-        ClocklessGates x = signals(true, false);
+        ClocklessGates x = Nets.signals(true, false);
         Nets.ring(x, 1, -1, 2, -2);
         verdict("up and down, then the output", x, 4, 2);
-        ClocklessGates twice = signals(true, true);
+        ClocklessGates twice = Nets.signals(true, true);
         Nets.ring(twice, 1, -1, 2, -2);
         verdict("the same with inputs alone", twice, 0, -1);
-        ClocklessGates agree = signals(true, false);
+        ClocklessGates agree = Nets.signals(true, false);
         Nets.ring(agree, 1, 2, -1, -2, 1, 2, -1, -2);
         verdict("the same code, the same outputs", agree, 0, -1);
         DUE.answer("the same code, the same outputs: states()", 8, agree::states);
@@ -185,7 +177,7 @@ public final class VerdictTest {
         }
         DUE.answer("wrong, not too big: analyse()", 2, big::analyse);
         DUE.answer("wrong, not too big: states()", 72, big::states);
-        ClocklessGates bigger = signals(false, true, true, true);
+        ClocklessGates bigger = Nets.signals(false, true, true, true);
         for (int s = 0; s < 4; s++) {
             int first = bigger.place(true);
             int second = bigger.place(false);
